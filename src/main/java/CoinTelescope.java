@@ -770,18 +770,14 @@ public final class CoinTelescope {
         /** Reads a new view from signs: NO_FAULT, or the place of the first sign with which none can go on. */
         int readFrom(int[] text) {
             signs = text;
-            for (int read = 1; read <= MOST_CLAUSES; read++) {
+            int read = 0;
+            do {
                 if (!readClause()) {
                     return at;
                 }
-                if (next() == END) {
-                    return NO_FAULT;
-                }
-                if (read == MOST_CLAUSES || !take(';')) {
-                    return at;
-                }
-            }
-            return at;
+                read++;
+            } while (read < MOST_CLAUSES && take(';'));
+            return next() == END ? NO_FAULT : at;
         }
 
         // Each of these answers whether (or what) it read; if not, the reading stands at the fault.
@@ -799,8 +795,13 @@ public final class CoinTelescope {
                 case COIN: coin = Math.max(1, n); return true;
                 case ADDS: adds = n; return true;
                 case HAZE: haze = n; return true;
-                default: return readCondition(word == DEAR ? n : -n);
+                default: break;
             }
+            if (!take(' ') || !readJoined(OR, 0)) {
+                return false;
+            }
+            keepCondition(word == DEAR ? n : -n);
+            return true;
         }
 
         /** Goes as far as the longest beginning that a word has in common with the text. */
@@ -839,18 +840,6 @@ public final class CoinTelescope {
             }
             at++;
             return first * 10 + second;
-        }
-
-        private boolean readCondition(int amount) {
-            if (!take(' ') || !readJoined(OR, 0)) {
-                return false;
-            }
-            if (clauses >= 0 && clauses < amounts.length && clauses < ends.length) {
-                amounts[clauses] = amount;
-                ends[clauses] = codeSize;
-                clauses++;
-            }
-            return true;
         }
 
         /** An E (parts joined by |), or a T (parts joined by &), inside so many of ! and ( that are open. */
@@ -929,9 +918,18 @@ public final class CoinTelescope {
 
         /** There is room for all: each piece of code stands for one sign of the text at least. */
         private void emit(int piece) {
-            if (codeSize >= 0 && codeSize < code.length) {
+            if (isIn(code, codeSize)) {
                 code[codeSize] = piece;
                 codeSize++;
+            }
+        }
+
+        /** The code emitted since the last one is this one's. */
+        private void keepCondition(int amount) {
+            if (isIn(amounts, clauses) && isIn(ends, clauses)) {
+                amounts[clauses] = amount;
+                ends[clauses] = codeSize;
+                clauses++;
             }
         }
 
@@ -948,7 +946,7 @@ public final class CoinTelescope {
             return base;
         }
 
-        /** The stack is kept in the bits of a number: its top is the lowest bit. */
+        /** The stack is the bits of a number, its top the lowest: five levels of ( never need more than 13 of them. */
         private boolean holds(int start, int end, int[] facts) {
             int stack = 0;
             for (int i = Math.max(0, start); i < end && i < code.length; i++) {

@@ -193,6 +193,10 @@ public final class LookTest {
         z.thing(0, 0, 18);
         z.thing(1, 0, 10);
         order("the boat comes around", z, 4, 1, 0);
+        CoinTelescope w = new CoinTelescope();
+        w.thing(0, 0, 1);
+        w.thing(1, 0, 12);
+        order("the boat has gone on meanwhile", w, 6, 0, 1);
     }
 
     private static void orderAtTheEdges() {

@@ -57,6 +57,18 @@ public final class PlansTest {
         CHECK.due("nothing changed", x.told(0) + x.told(4) + x.told(7) + x.told(8), 0);
         x.had(1, true);
         done("it is had", x, 0, 6, 4);
+        x.point(7);
+        x.plan(-1);
+        x.plan(0);
+        x.plan(0);
+        x.plan(0);
+        done("seen but once", x, 7, 7, 3);
+        CoinTelescope far = new CoinTelescope();
+        far.thing(0, 0, 23);
+        for (int doing : new int[] {2, 2, 2, 2, 2, 3, 3, 3}) {
+            far.plan(doing);
+        }
+        done("by the eighth row", far, 4, 23, 0);
     }
 
     private static void doneWithBlackTicks() {

@@ -63,6 +63,11 @@ public final class TicksTest {
         x.pass(60);
         CHECK.due("39 and 60", x.told(9), 0);
         CHECK.due("no more", x.pay(), 99);
+        CoinTelescope one = Check.withView("coin 5;adds 1");
+        one.pay();
+        CHECK.due("adds 1 adds, too", one.pay(), 10);
+        Check.view(one, "coin 5;adds 0");
+        CHECK.due("adds 0 does not", one.pay(), 5);
     }
 
     private static void movesOfTheTube() {

@@ -111,6 +111,10 @@ public final class ViewsTest {
         fault("haze  1", 5);
         fault("haze a", 5);
         fault("haze -1", 5);
+        fault("haze :", 5);
+        fault("haze /", 5);
+        fault("haze 1:", 6);
+        fault("haze 1/", 6);
         fault("haze 00", 6);
         fault("haze 100", 7);
         fault("haze 1 ", 6);
@@ -135,6 +139,7 @@ public final class ViewsTest {
         fault("dear 1 p=01", 10);
         fault("dear 1 p=123", 11);
         fault("dear 1 p=1 ", 10);
+        fault("dear 1 p=:", 9);
         fault("dear 1 p=1)", 10);
         fault("dear 1 p=1&", 11);
         fault("dear 1 p=1&&p=1", 11);
@@ -176,7 +181,7 @@ public final class ViewsTest {
         reads("adds 1;adds 1;adds 1;adds 1;adds 1;adds 1;adds 1;adds 1;adds 1;adds 1");
         fault("adds 1;adds 1;adds 1;adds 1;adds 1;adds 1;adds 1;adds 1;adds 1;adds 1;", 69);
         fault("adds 1;adds 1;adds 1;adds 1;adds 1;adds 1;adds 1;adds 1;adds 1;adds 1;adds 1", 69);
-        String hundred = "dear 1 p<9|p<9|p<9|p<9|p<9|p<9|p<9|p<9|p<9|p<9|p<9|p<9|p<9|p<9|p<9|p<9|p<9|p<9|p<9|p<9|p<9|p<9|p<99";
+        String hundred = "dear 1 " + "p<9|".repeat(22) + "p<99";
         CHECK.due("the test's own text", hundred.length(), 99);
         reads(hundred);
         fault(hundred + "|", 100);
@@ -227,6 +232,11 @@ public final class ViewsTest {
         condition("l>4", false);
         condition("!p=2", false);
         condition("!!p=2", true);
+        condition("p=1|v=0", false);
+        condition("p=1|v=7", true);
+        condition("p=2|v=0", true);
+        condition("p=2&v=0", false);
+        condition("p=1&v=7", false);
         condition("p=2|p=1&v=0", true);
         condition("(p=2|p=1)&v=0", false);
         condition("p=1&v=0|k=1", true);
