@@ -1,6 +1,7 @@
 /** What the tests share: answers that are due, texts fed sign by sign, and how a test ends. */
 final class Check {
     private final String name;
+    private String about = "";
     private int asked = 0;
     private int wrong = 0;
 
@@ -8,11 +9,16 @@ final class Check {
         this.name = name;
     }
 
+    /** What all is about that is asked from here on; it is told with an answer that is not as due. */
+    void about(String what) {
+        about = " [" + what + "]";
+    }
+
     void due(String what, long got, long want) {
         asked++;
         if (got != want) {
             wrong++;
-            System.out.println(name + ": " + what + " answered " + got + ", due is " + want);
+            System.out.println(name + about + ": " + what + " answered " + got + ", due is " + want);
         }
     }
 

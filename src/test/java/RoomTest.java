@@ -4,7 +4,8 @@ import java.lang.management.ManagementFactory;
 public final class RoomTest {
     private static final Check CHECK = new Check("RoomTest");
     private static final long MOST_BYTES = 1_000_000;
-    private static final String[] CALLS = {"view", "thing, undo", "image", "look", "aim", "order", "odds", "done", "act"};
+    private static final String[] CALLS =
+        {"view", "thing, undo", "image", "look", "aim", "order", "odds", "done", "act"};
 
     private static int kept;
 
