@@ -184,6 +184,8 @@ final class AskedSentences {
         lookIs("down is the first of two", around, 1, 4, 3);
         around.had(2, true);
         lookIs("left", around, 1, 4, 4);
+        around.had(3, true);
+        lookIs("none of them: hold still", around, 1, 0, 0);
         CoinTelescope boat = new CoinTelescope();
         boat.thing(1, 0, 3);
         lookIs("it waits for the boat that comes around", boat, 3, 5, 0, 0, 0);
@@ -220,6 +222,11 @@ final class AskedSentences {
         due("up from it", last.aim(1, 0), 17);
         last.thing(0, 0, 17);
         due("all three", last.aim(2, 1), 17);
+        CoinTelescope corners = new CoinTelescope();
+        corners.thing(0, 0, 0);
+        corners.thing(0, 0, 18);
+        due("there is no cell with both in reach", corners.aim(2, 1), 4);
+        due("the first with one of them", corners.aim(2, 0), 0);
     }
 
     private void soonIs(String view, int kind, int v, int cell, int tube, int due) {
@@ -293,6 +300,25 @@ final class AskedSentences {
         late.thing(3, 1, 16);
         late.thing(3, 1, 16);
         orderIs("the second by more than 26", late, 27, 0, 1);
+        CoinTelescope rare = rareOnes();
+        orderIs("one of six in each 12 ticks", rare, 68, 0, 1, 2, 3, 4, 5);
+        rare.pass(1);
+        orderIs("the first is too far for the first time", rare, 67, 1, 0, 2, 3, 4, 5);
+        rare.had(1, true);
+        orderIs("one is had", rare, 55, 2, 0, 3, 4, 5);
+    }
+
+    /** Six that come out of the haze on tick 8, 20, 32 and so on alone, each at another cell, the first at 23. */
+    private static CoinTelescope rareOnes() {
+        CoinTelescope x = Check.withView("haze 3");
+        for (int i = 0; i < 6; i++) {
+            x.thing(6, 2, 0);
+            int[] row = {i == 0 ? 7 : i + 1, 6, 4, 2};
+            for (int k = 0; k < 4; k++) {
+                x.row(i, k, row[k]);
+            }
+        }
+        return x;
     }
 
     private void orderAtTheEdges() {
@@ -334,6 +360,10 @@ final class AskedSentences {
         due("99 and 1", x.told(9), 1);
         CoinTelescope y = Check.withView("coin 99;adds 1");
         due("0 and 99", y.told(9), 0);
+        Check.view(y, "coin 98;adds 1");
+        due("0 and 98: not below 0", y.told(9), 0);
+        Check.view(y, "coin 1;adds 1");
+        due("0 and 1: not below 0", y.told(9), 0);
         Check.view(y, "coin 1;adds 0");
         y.pay();
         due("one is left", y.told(9), 1);

@@ -293,6 +293,12 @@ final class TermsSentences {
         fault("dear p=1", 5);
         fault("coin", 4);
         fault("coins 1", 4);
+        fault("coina 1", 4);
+        fault("addsh 1", 4);
+        fault("hazed 1", 4);
+        fault("deard 1 p=1", 4);
+        fault("coinadds 1", 4);
+        fault("dulldear 1 p=1", 4);
     }
 
     private void numbers() {
@@ -408,6 +414,13 @@ final class TermsSentences {
         fault("dear 1 p=100", 11);
         doc.says("of one of THINGS on a TICK p its number, k its KIND, v its v, c the CELL where it is then, "
             + "t the TICK modulo 10, l how many TICKS are LEFT.");
+        for (char letter : "pkvctl".toCharArray()) {
+            holds(letter + "<0", false);
+            holds("!" + letter + "<0", true);
+            holds(letter + "<0|!!" + letter + "<0", false);
+            holds(letter + ">99", false);
+            holds(letter + "<99&!" + letter + "=99", true);
+        }
         is("p", 5);
         is("k", 1);
         is("v", 9);
